@@ -8,7 +8,6 @@ public final class LeagueTables {
     private static final int MOST_GROUND = 9;
     private static final int MOST_GOALS = 20;
     private static final int MOST_PUT_OFF = 9;
-    private static final int MOST_RULES = 3;
     private static final int LAST_RULE = 4;
     private static final int MOST_KEPT = 8;
     private static final int MOST_SIGNS = 60;

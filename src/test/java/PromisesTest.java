@@ -480,6 +480,7 @@ public final class PromisesTest {
         checks.fails("no bye of 4, no week", INDEX, () -> y.byeIn(6));
         x.putOff(0, 3);
         checks.due("a bye stays where it was drawn", 3, () -> x.byeIn(3));
+        checks.due("the last bye of seven", 6, () -> drawn(new int[7]).byeIn(13));
     }
 
     private static void meetingsIn() {
@@ -734,6 +735,32 @@ public final class PromisesTest {
         checks.due("run over one not played", 1, () -> y.run(team));
         y.result(1, 3, 0);
         checks.due("run in the order of numbers", 2, () -> y.run(team));
+        LeagueTables z = drawn(0, 1, 2);
+        for (int week = 0; week < 6; week++) {
+            int m = week;
+            z.result(m, 1, 0);
+            if (week < 5) {
+                z.next();
+            }
+        }
+        for (int t = 0; t < 3; t++) {
+            int one = t;
+            checks.due("run of wins at home alone, " + t, homeRun(z, t), () -> z.run(one));
+        }
+    }
+
+    private static int homeRun(LeagueTables x, int team) {
+        int longest = 0;
+        int length = 0;
+        for (int m = 0; m < x.account(4); m++) {
+            if (x.meetingOf(m, 1) == team) {
+                length++;
+            } else if (x.meetingOf(m, 2) == team) {
+                length = 0;
+            }
+            longest = Math.max(longest, length);
+        }
+        return longest;
     }
 
     // ---- Promises 27 to 30
@@ -861,6 +888,11 @@ public final class PromisesTest {
         fault("m1=1:;", 5);
         fault("m1=1:123", 7);
         fault("m-1=1:1", 1);
+        fault("m:", 1);
+        fault("m1=:1", 3);
+        fault("m/", 1);
+        fault("n\0", 1);
+        fault("n\u00ff", 1);
         fault("b", 1);
         fault("b123", 3);
         fault("b1=", 2);
@@ -990,6 +1022,7 @@ public final class PromisesTest {
             }
         }
         checks.yes("some clashes", x.account(12) > 0);
+        checks.due("clashes of the first week, too", 6, () -> drawn(0, 0, 0, 0).account(12));
         checks.fails("account 15", ARGUMENT, () -> x.account(15));
         checks.fails("account -1", ARGUMENT, () -> x.account(-1));
         LeagueTables y = drawn(0, 1);
@@ -1044,7 +1077,26 @@ public final class PromisesTest {
         checks.due("undo draw and team", 0, () -> x.undo() + x.undo() - 1);
         x.draw();
         checks.due("drawn anew with three", 6, () -> x.account(4));
+        undoOfEachNumber();
         refusedIsNoChange();
+    }
+
+    private static void undoOfEachNumber() {
+        LeagueTables x = teams(1, 2);
+        x.give(2, 3);
+        checks.due("undo give", 2, x::undo);
+        checks.due("draw", 1, () -> x.account(8));
+        x.draw();
+        x.result(0, 2, 5);
+        x.back(0);
+        x.undo();
+        checks.due("home goals again", 2, () -> x.meetingOf(0, 4));
+        checks.due("away goals again", 5, () -> x.meetingOf(0, 5));
+        LeagueTables y = someWeeks();
+        y.rules(1, -1, -1);
+        table("by other rules", y, 2, 0, 3, 1);
+        y.undo();
+        table("by the rules before", y, 2, 3, 0, 1);
     }
 
     private static void refusedIsNoChange() {
