@@ -695,6 +695,12 @@ public final class PromisesTest {
         checks.due("not out while it can have as many", 0, () -> bool(y.isOut(1)));
         y.result(1, 1, 1);
         checks.due("out then", 1, () -> bool(y.isOut(1)));
+        LeagueTables w = drawn(0, 1);
+        w.result(0, 0, 1);
+        w.next();
+        w.result(1, 1, 0);
+        checks.due("out by a team with a higher number", 1, () -> bool(w.isOut(0)));
+        checks.due("safe with a higher number", 1, () -> bool(w.isSafe(1)));
         LeagueTables z = teams(0, 1, 2);
         z.give(1, 3);
         z.draw();
