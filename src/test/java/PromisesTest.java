@@ -51,55 +51,11 @@ public final class PromisesTest {
         checks.end();
     }
 
-    // ---- Ways to a state
-
-    private static LeagueTables teams(int... grounds) {
-        LeagueTables x = new LeagueTables();
-        for (int ground : grounds) {
-            x.team(ground);
-        }
-        return x;
-    }
-
-    private static LeagueTables drawn(int... grounds) {
-        LeagueTables x = teams(grounds);
-        x.draw();
-        return x;
-    }
-
-    // Plays all that belongs to the present week, home goals and away goals each.
-    private static void playWeek(LeagueTables x, int home, int away) {
-        for (int m = 0; m < x.account(4); m++) {
-            if (x.meetingOf(m, 0) == x.account(3) && x.meetingOf(m, 3) != 1) {
-                x.result(m, home, away);
-            }
-        }
-    }
-
-    private static void write(LeagueTables x, String text) {
-        for (int i = 0; i < text.length(); i++) {
-            x.append(text.charAt(i));
-        }
-    }
-
-    private static String lineOf(LeagueTables x, int team) {
-        StringBuilder line = new StringBuilder();
-        int length = x.line(team);
-        for (int i = 0; i < length; i++) {
-            line.append(x.character(i));
-        }
-        return line.toString();
-    }
-
     private static void refused(LeagueTables x, String call, int reason, int detail, Checks.Call made) {
         checks.fails(call, REFUSED, made);
         checks.due(call + ": reason", reason, () -> x.reason(0));
         checks.due(call + ": detail", detail, () -> x.reason(1));
         checks.due(call + ": command", 0, () -> x.reason(2));
-    }
-
-    private static int bool(boolean is) {
-        return is ? 1 : 0;
     }
 
     // ---- Promises 1 to 10
@@ -133,13 +89,13 @@ public final class PromisesTest {
         x.draw();
         refused(x, "ninth team when drawn", 4, 0, () -> x.team(0));
         refused(x, "wrong ground when drawn", 1, 0, () -> x.team(-1));
-        LeagueTables shared = teams(4, 4);
+        LeagueTables shared = Ways.teams(4, 4);
         checks.due("a ground of two", 4, () -> shared.teamOf(1, 0));
         checks.due("ground 0", 2, () -> shared.team(0));
     }
 
     private static void ground() {
-        LeagueTables x = teams(3, 5);
+        LeagueTables x = Ways.teams(3, 5);
         checks.due("ground before", 3, () -> x.ground(0, 9));
         checks.due("ground now", 9, () -> x.teamOf(0, 0));
         checks.due("the same ground", 9, () -> x.ground(0, 9));
@@ -163,7 +119,7 @@ public final class PromisesTest {
         refused(x, "draw again", 4, 0, x::draw);
         int[] weeks = {2, 6, 6, 10, 10, 14, 14};
         for (int n = 2; n <= 8; n++) {
-            LeagueTables y = teams(new int[n]);
+            LeagueTables y = Ways.teams(new int[n]);
             checks.due("weeks of " + n, weeks[n - 2], y::draw);
             checks.due("meetings of " + n, n * (n - 1), () -> y.account(4));
             eachPairTwice(y, n);
@@ -208,7 +164,7 @@ public final class PromisesTest {
 
     // Worked out by hand from the words of the document: places 0 to 5, the circle has 5.
     private static void roundsOfSix() {
-        meetings("six teams", drawn(0, 1, 2, 3, 4, 5), new int[][] {
+        meetings("six teams", Ways.drawn(0, 1, 2, 3, 4, 5), new int[][] {
             {0, 0, 5}, {0, 2, 3}, {0, 4, 1},
             {1, 0, 2}, {1, 3, 4}, {1, 5, 1},
             {2, 1, 3}, {2, 2, 5}, {2, 4, 0},
@@ -223,14 +179,14 @@ public final class PromisesTest {
 
     // The same circle, where the place 5 stands for the bye.
     private static void roundsOfFive() {
-        meetings("five teams", drawn(0, 1, 2, 3, 4), new int[][] {
+        meetings("five teams", Ways.drawn(0, 1, 2, 3, 4), new int[][] {
             {0, 2, 3}, {0, 4, 1}, {1, 0, 2}, {1, 3, 4}, {2, 1, 3}, {2, 4, 0}, {3, 0, 1}, {3, 2, 4},
             {4, 1, 2}, {4, 3, 0}, {5, 1, 4}, {5, 3, 2}, {6, 2, 0}, {6, 4, 3}, {7, 0, 4}, {7, 3, 1},
             {8, 1, 0}, {8, 4, 2}, {9, 0, 3}, {9, 2, 1}});
     }
 
     private static void give() {
-        LeagueTables x = teams(0, 1);
+        LeagueTables x = Ways.teams(0, 1);
         checks.due("give first", 31, () -> x.give(5, 0));
         checks.due("give second", 50, () -> x.give(1, 3));
         checks.due("give third", 13, () -> x.give(2, 1));
@@ -255,7 +211,7 @@ public final class PromisesTest {
     }
 
     private static void rules() {
-        LeagueTables x = teams(0, 1);
+        LeagueTables x = Ways.teams(0, 1);
         checks.due("three rules", 3, () -> x.rules(4, 3, 2));
         checks.due("account of rules", 3, () -> x.account(9));
         checks.due("no rules", 0, () -> x.rules(-1, -1, -1));
@@ -272,7 +228,7 @@ public final class PromisesTest {
     }
 
     private static void result() {
-        LeagueTables x = teams(0, 1, 2, 3);
+        LeagueTables x = Ways.teams(0, 1, 2, 3);
         refused(x, "result, not drawn", 5, 0, () -> x.result(99, 21, 0));
         x.draw();
         refused(x, "result, no meeting 12", 3, 12, () -> x.result(12, 21, 0));
@@ -293,7 +249,7 @@ public final class PromisesTest {
     }
 
     private static void back() {
-        LeagueTables x = teams(0, 1, 2, 3);
+        LeagueTables x = Ways.teams(0, 1, 2, 3);
         refused(x, "back, not drawn", 5, 0, () -> x.back(0));
         x.draw();
         refused(x, "back, no meeting", 3, 12, () -> x.back(12));
@@ -315,7 +271,7 @@ public final class PromisesTest {
     }
 
     private static void putOff() {
-        LeagueTables x = teams(0, 1, 2, 0);
+        LeagueTables x = Ways.teams(0, 1, 2, 0);
         refused(x, "putOff, not drawn", 5, 0, () -> x.putOff(0, 1));
         x.draw();
         refused(x, "putOff, no meeting", 3, 12, () -> x.putOff(12, 0));
@@ -336,7 +292,7 @@ public final class PromisesTest {
         refused(x, "putOff again behind the last", 10, 10, () -> x.putOff(0, 9));
         checks.due("putOff again without a clash", 0, () -> x.putOff(0, 1));
         checks.due("week again", 2, () -> x.meetingOf(0, 0));
-        LeagueTables y = drawn(0, 1);
+        LeagueTables y = Ways.drawn(0, 1);
         checks.due("putOff to the last week", 0, () -> y.putOff(0, 1));
         y.next();
         y.result(1, 0, 0);
@@ -344,7 +300,7 @@ public final class PromisesTest {
     }
 
     private static void next() {
-        LeagueTables x = teams(0, 1, 2, 3);
+        LeagueTables x = Ways.teams(0, 1, 2, 3);
         refused(x, "next, not drawn", 5, 0, x::next);
         x.draw();
         refused(x, "next, none played", 11, 0, x::next);
@@ -355,11 +311,11 @@ public final class PromisesTest {
             int due = week;
             checks.due("next", due, x::next);
             if (week < 5) {
-                playWeek(x, 1, 1);
+                Ways.playWeek(x, 1, 1);
             }
         }
         refused(x, "next, the one put off", 11, 1, x::next);
-        playWeek(x, 1, 1);
+        Ways.playWeek(x, 1, 1);
         refused(x, "next, the last week", 14, 5, x::next);
         checks.due("present week", 5, () -> x.account(3));
     }
@@ -368,7 +324,7 @@ public final class PromisesTest {
 
     // Four teams, the first week 0:3 of 3 to 1 and 2 to 2.
     private static LeagueTables someWeeks() {
-        LeagueTables x = drawn(7, 1, 2, 3);
+        LeagueTables x = Ways.drawn(7, 1, 2, 3);
         x.result(0, 3, 1);
         x.result(1, 2, 2);
         x.next();
@@ -404,7 +360,7 @@ public final class PromisesTest {
         checks.fails("no team -1", INDEX, () -> x.teamOf(-1, 9));
         checks.fails("teamOf, what 9", ARGUMENT, () -> x.teamOf(3, 9));
         checks.fails("teamOf, what -1", ARGUMENT, () -> x.teamOf(0, -1));
-        checks.due("not drawn, none to play", 0, () -> teams(0, 0).teamOf(1, 8));
+        checks.due("not drawn, none to play", 0, () -> Ways.teams(0, 0).teamOf(1, 8));
     }
 
     private static void pointsAgain() {
@@ -416,7 +372,7 @@ public final class PromisesTest {
         }
         checks.fails("pointsAgain, no team 4", INDEX, () -> x.pointsAgain(4));
         checks.fails("pointsAgain, no team -1", INDEX, () -> x.pointsAgain(-1));
-        LeagueTables y = teams(0, 1);
+        LeagueTables y = Ways.teams(0, 1);
         y.give(1, 3);
         y.draw();
         y.result(0, 1, 1);
@@ -427,7 +383,7 @@ public final class PromisesTest {
     }
 
     private static void meetingOf() {
-        LeagueTables x = drawn(0, 1, 2, 3);
+        LeagueTables x = Ways.drawn(0, 1, 2, 3);
         x.result(0, 4, 2);
         x.putOff(1, 3);
         int[][] due = {{0, 0, 3, 1, 4, 2, 0}, {3, 2, 1, 2, -1, -1, 0}, {1, 0, 2, 0, -1, -1, 1}};
@@ -443,11 +399,11 @@ public final class PromisesTest {
         checks.fails("no meeting -1", INDEX, () -> x.meetingOf(-1, 7));
         checks.fails("meetingOf, what 7", ARGUMENT, () -> x.meetingOf(0, 7));
         checks.fails("meetingOf, what -1", ARGUMENT, () -> x.meetingOf(0, -1));
-        checks.fails("not drawn, no meeting", INDEX, () -> teams(0, 1).meetingOf(0, 0));
+        checks.fails("not drawn, no meeting", INDEX, () -> Ways.teams(0, 1).meetingOf(0, 0));
     }
 
     private static void find() {
-        LeagueTables x = teams(0, 1, 2, 3);
+        LeagueTables x = Ways.teams(0, 1, 2, 3);
         checks.fails("find, not drawn", NONE, () -> x.find(0, 1));
         checks.fails("find, not drawn, no team", INDEX, () -> x.find(0, 4));
         x.draw();
@@ -465,14 +421,14 @@ public final class PromisesTest {
     }
 
     private static void byeIn() {
-        LeagueTables x = drawn(0, 1, 2, 3, 4);
+        LeagueTables x = Ways.drawn(0, 1, 2, 3, 4);
         for (int w = 0; w < 10; w++) {
             int week = w;
             checks.due("bye in " + w, w % 5, () -> x.byeIn(week));
         }
         checks.fails("bye in 10", INDEX, () -> x.byeIn(10));
         checks.fails("bye in -1", INDEX, () -> x.byeIn(-1));
-        LeagueTables y = teams(0, 1, 2, 3);
+        LeagueTables y = Ways.teams(0, 1, 2, 3);
         checks.fails("bye, not drawn", INDEX, () -> y.byeIn(0));
         y.draw();
         checks.fails("no bye of 4", NONE, () -> y.byeIn(0));
@@ -480,11 +436,11 @@ public final class PromisesTest {
         checks.fails("no bye of 4, no week", INDEX, () -> y.byeIn(6));
         x.putOff(0, 3);
         checks.due("a bye stays where it was drawn", 3, () -> x.byeIn(3));
-        checks.due("the last bye of seven", 6, () -> drawn(new int[7]).byeIn(13));
+        checks.due("the last bye of seven", 6, () -> Ways.drawn(new int[7]).byeIn(13));
     }
 
     private static void meetingsIn() {
-        LeagueTables x = teams(0, 1, 2, 3);
+        LeagueTables x = Ways.teams(0, 1, 2, 3);
         checks.fails("meetingsIn, not drawn", INDEX, () -> x.meetingsIn(0));
         x.draw();
         checks.due("meetingsIn 5", 2, () -> x.meetingsIn(5));
@@ -498,7 +454,7 @@ public final class PromisesTest {
     }
 
     private static void clashes() {
-        LeagueTables x = teams(0, 0, 0, 0);
+        LeagueTables x = Ways.teams(0, 0, 0, 0);
         checks.fails("clashes, not drawn", INDEX, () -> x.clashes(0));
         x.draw();
         checks.due("clashes of two", 1, () -> x.clashes(0));
@@ -509,7 +465,7 @@ public final class PromisesTest {
         checks.due("clashes of four", 6, () -> x.clashes(1));
         checks.fails("clashes 6", INDEX, () -> x.clashes(6));
         checks.fails("clashes -1", INDEX, () -> x.clashes(-1));
-        LeagueTables y = drawn(1, 2, 3, 4);
+        LeagueTables y = Ways.drawn(1, 2, 3, 4);
         checks.due("no clash", 0, () -> y.clashes(0));
         y.ground(2, 1);
         checks.due("a clash by a new ground", 1, () -> y.clashes(0));
@@ -518,13 +474,13 @@ public final class PromisesTest {
         y.ground(2, 4);
         checks.due("the ground of the team away does not count", 0, () -> y.clashes(0));
         // The team 0 is at home in the week 1, too.
-        LeagueTables z = drawn(1, 2, 3, 4);
+        LeagueTables z = Ways.drawn(1, 2, 3, 4);
         z.putOff(0, 1);
         checks.due("the same team at home", 1, () -> z.clashes(1));
     }
 
     private static void freeWeek() {
-        LeagueTables x = drawn(0, 1, 2, 3);
+        LeagueTables x = Ways.drawn(0, 1, 2, 3);
         // The team 0 is at home in the weeks 0, 1 and 5.
         checks.due("free week", 2, () -> x.freeWeek(0));
         x.putOff(0, 1);
@@ -532,9 +488,9 @@ public final class PromisesTest {
         checks.fails("free week of the last", NONE, () -> x.freeWeek(11));
         checks.fails("free week, no meeting", INDEX, () -> x.freeWeek(12));
         checks.fails("free week, no meeting -1", INDEX, () -> x.freeWeek(-1));
-        checks.fails("free week, not drawn", INDEX, () -> teams(0, 1).freeWeek(0));
-        checks.fails("free week, one ground", NONE, () -> drawn(0, 0, 0).freeWeek(0));
-        LeagueTables y = drawn(0, 1);
+        checks.fails("free week, not drawn", INDEX, () -> Ways.teams(0, 1).freeWeek(0));
+        checks.fails("free week, one ground", NONE, () -> Ways.drawn(0, 0, 0).freeWeek(0));
+        LeagueTables y = Ways.drawn(0, 1);
         checks.due("free week of two", 1, () -> y.freeWeek(0));
         y.result(0, 1, 1);
         checks.due("free week of one played", 1, () -> y.freeWeek(0));
@@ -567,8 +523,8 @@ public final class PromisesTest {
         table("by rule 3", x, 2, 0, 3, 1);
         x.rules(-1, -1, -1);
         table("without rules", x, 2, 0, 3, 1);
-        table("not drawn", teams(0, 0, 0), 0, 1, 2);
-        LeagueTables y = drawn(0, 1, 2, 3);
+        table("not drawn", Ways.teams(0, 0, 0), 0, 1, 2);
+        LeagueTables y = Ways.drawn(0, 1, 2, 3);
         y.result(0, 1, 1);
         y.result(1, 2, 2);
         table("rule 1 behind rule 0", y, 1, 2, 0, 3);
@@ -602,7 +558,7 @@ public final class PromisesTest {
 
     // Rule 3 is of all with the same points, also where a rule ahead of it tells them apart.
     private static void valueAmongThree() {
-        LeagueTables x = teams(0, 1, 2);
+        LeagueTables x = Ways.teams(0, 1, 2);
         x.rules(0, 3, -1);
         x.draw();
         for (int week = 0; week < 6; week++) {
@@ -634,8 +590,8 @@ public final class PromisesTest {
         }
         checks.fails("tied, no team 4", INDEX, () -> x.tied(4));
         checks.fails("tied, no team -1", INDEX, () -> x.tied(-1));
-        checks.due("tied, all", 255, () -> teams(0, 0, 0, 0, 0, 0, 0, 0).tied(7));
-        checks.due("tied, itself", 1, () -> teams(0).tied(0));
+        checks.due("tied, all", 255, () -> Ways.teams(0, 0, 0, 0, 0, 0, 0, 0).tied(7));
+        checks.due("tied, itself", 1, () -> Ways.teams(0).tied(0));
     }
 
     private static void most() {
@@ -647,8 +603,8 @@ public final class PromisesTest {
         }
         checks.fails("most, no team 4", INDEX, () -> x.most(4));
         checks.fails("most, no team -1", INDEX, () -> x.most(-1));
-        checks.due("most, not drawn", 0, () -> teams(0, 1).most(1));
-        LeagueTables y = teams(0, 1);
+        checks.due("most, not drawn", 0, () -> Ways.teams(0, 1).most(1));
+        LeagueTables y = Ways.teams(0, 1);
         y.give(1, 3);
         y.draw();
         checks.due("most by wins", 2, () -> y.most(0));
@@ -657,51 +613,51 @@ public final class PromisesTest {
     }
 
     private static void isSafe() {
-        LeagueTables x = drawn(0, 1);
-        checks.due("not safe at first", 0, () -> bool(x.isSafe(0)));
+        LeagueTables x = Ways.drawn(0, 1);
+        checks.due("not safe at first", 0, () -> Ways.bool(x.isSafe(0)));
         x.result(0, 1, 0);
-        checks.due("not safe if another can have as many", 0, () -> bool(x.isSafe(0)));
+        checks.due("not safe if another can have as many", 0, () -> Ways.bool(x.isSafe(0)));
         x.next();
         x.result(1, 1, 1);
-        checks.due("safe", 1, () -> bool(x.isSafe(0)));
-        checks.due("the other is not", 0, () -> bool(x.isSafe(1)));
-        checks.fails("isSafe, no team 2", INDEX, () -> bool(x.isSafe(2)));
-        checks.fails("isSafe, no team -1", INDEX, () -> bool(x.isSafe(-1)));
-        checks.due("safe without others", 1, () -> bool(teams(0).isSafe(0)));
-        LeagueTables y = teams(0, 1);
+        checks.due("safe", 1, () -> Ways.bool(x.isSafe(0)));
+        checks.due("the other is not", 0, () -> Ways.bool(x.isSafe(1)));
+        checks.fails("isSafe, no team 2", INDEX, () -> Ways.bool(x.isSafe(2)));
+        checks.fails("isSafe, no team -1", INDEX, () -> Ways.bool(x.isSafe(-1)));
+        checks.due("safe without others", 1, () -> Ways.bool(Ways.teams(0).isSafe(0)));
+        LeagueTables y = Ways.teams(0, 1);
         y.give(2, 3);
         y.draw();
         y.result(0, 1, 0);
-        checks.due("another can have more by a draw", 0, () -> bool(y.isSafe(0)));
+        checks.due("another can have more by a draw", 0, () -> Ways.bool(y.isSafe(0)));
     }
 
     private static void isOut() {
-        LeagueTables x = drawn(0, 1);
-        checks.due("not out at first", 0, () -> bool(x.isOut(0)));
+        LeagueTables x = Ways.drawn(0, 1);
+        checks.due("not out at first", 0, () -> Ways.bool(x.isOut(0)));
         x.result(0, 1, 0);
-        checks.due("not out with as many", 0, () -> bool(x.isOut(1)));
+        checks.due("not out with as many", 0, () -> Ways.bool(x.isOut(1)));
         x.next();
         x.result(1, 1, 1);
-        checks.due("out", 1, () -> bool(x.isOut(1)));
-        checks.due("the other is not out", 0, () -> bool(x.isOut(0)));
-        checks.fails("isOut, no team 2", INDEX, () -> bool(x.isOut(2)));
-        checks.fails("isOut, no team -1", INDEX, () -> bool(x.isOut(-1)));
-        checks.due("not out without others", 0, () -> bool(teams(0).isOut(0)));
-        LeagueTables y = teams(0, 1);
+        checks.due("out", 1, () -> Ways.bool(x.isOut(1)));
+        checks.due("the other is not out", 0, () -> Ways.bool(x.isOut(0)));
+        checks.fails("isOut, no team 2", INDEX, () -> Ways.bool(x.isOut(2)));
+        checks.fails("isOut, no team -1", INDEX, () -> Ways.bool(x.isOut(-1)));
+        checks.due("not out without others", 0, () -> Ways.bool(Ways.teams(0).isOut(0)));
+        LeagueTables y = Ways.teams(0, 1);
         y.give(1, 0);
         y.draw();
         y.result(0, 1, 0);
         y.next();
-        checks.due("not out while it can have as many", 0, () -> bool(y.isOut(1)));
+        checks.due("not out while it can have as many", 0, () -> Ways.bool(y.isOut(1)));
         y.result(1, 1, 1);
-        checks.due("out then", 1, () -> bool(y.isOut(1)));
-        LeagueTables w = drawn(0, 1);
+        checks.due("out then", 1, () -> Ways.bool(y.isOut(1)));
+        LeagueTables w = Ways.drawn(0, 1);
         w.result(0, 0, 1);
         w.next();
         w.result(1, 1, 0);
-        checks.due("out by a team with a higher number", 1, () -> bool(w.isOut(0)));
-        checks.due("safe with a higher number", 1, () -> bool(w.isSafe(1)));
-        LeagueTables z = teams(0, 1, 2);
+        checks.due("out by a team with a higher number", 1, () -> Ways.bool(w.isOut(0)));
+        checks.due("safe with a higher number", 1, () -> Ways.bool(w.isSafe(1)));
+        LeagueTables z = Ways.teams(0, 1, 2);
         z.give(1, 3);
         z.draw();
         z.result(0, 1, 1);
@@ -710,11 +666,11 @@ public final class PromisesTest {
         z.next();
         z.result(2, 1, 0);
         int low = z.meetingOf(2, 2);
-        checks.due("not out while a draw can help", 0, () -> bool(z.isOut(low)));
+        checks.due("not out while a draw can help", 0, () -> Ways.bool(z.isOut(low)));
     }
 
     private static void run() {
-        LeagueTables x = drawn(0, 1);
+        LeagueTables x = Ways.drawn(0, 1);
         checks.due("run of none", 0, () -> x.run(0));
         x.result(0, 1, 1);
         checks.due("run of a draw", 1, () -> x.run(1));
@@ -724,24 +680,24 @@ public final class PromisesTest {
         checks.due("run ended", 1, () -> x.run(1));
         checks.fails("run, no team 2", INDEX, () -> x.run(2));
         checks.fails("run, no team -1", INDEX, () -> x.run(-1));
-        checks.due("run, not drawn", 0, () -> teams(0).run(0));
+        checks.due("run, not drawn", 0, () -> Ways.teams(0).run(0));
         // The numbers tell the order: the meeting 1 comes first, though it is played last.
-        LeagueTables y = drawn(0, 1, 2, 3);
+        LeagueTables y = Ways.drawn(0, 1, 2, 3);
         int team = y.meetingOf(1, 1);
         y.putOff(1, 2);
         y.result(0, 0, 0);
         y.next();
         for (int m = 2; m < 4; m++) {
-            y.result(m, bool(y.meetingOf(m, 1) == team), bool(y.meetingOf(m, 2) == team));
+            y.result(m, Ways.bool(y.meetingOf(m, 1) == team), Ways.bool(y.meetingOf(m, 2) == team));
         }
         y.next();
         for (int m = 4; m < 6; m++) {
-            y.result(m, bool(y.meetingOf(m, 2) == team), bool(y.meetingOf(m, 1) == team));
+            y.result(m, Ways.bool(y.meetingOf(m, 2) == team), Ways.bool(y.meetingOf(m, 1) == team));
         }
         checks.due("run over one not played", 1, () -> y.run(team));
         y.result(1, 3, 0);
         checks.due("run in the order of numbers", 2, () -> y.run(team));
-        LeagueTables z = drawn(0, 1, 2);
+        LeagueTables z = Ways.drawn(0, 1, 2);
         for (int week = 0; week < 6; week++) {
             int m = week;
             z.result(m, 1, 0);
@@ -785,8 +741,8 @@ public final class PromisesTest {
     }
 
     private static void commands() {
-        LeagueTables x = drawn(0, 1, 2, 3);
-        write(x, "m0=2:0;m01=1:20;n;t34;o2+1");
+        LeagueTables x = Ways.drawn(0, 1, 2, 3);
+        Ways.write(x, "m0=2:0;m01=1:20;n;t34;o2+1");
         checks.due("five commands", 5, x::commands);
         checks.due("one change", 6, () -> x.account(13));
         checks.due("buffer is empty", 0, () -> x.account(14));
@@ -794,13 +750,13 @@ public final class PromisesTest {
         checks.due("next week", 1, () -> x.account(3));
         checks.due("put off", 2, () -> x.meetingOf(2, 0));
         checks.due("rules", 2, () -> x.account(9));
-        write(x, "m3=1:1;b3");
+        Ways.write(x, "m3=1:1;b3");
         checks.due("back", 2, x::commands);
         checks.due("taken back", 0, () -> x.meetingOf(3, 3));
-        write(x, "t");
+        Ways.write(x, "t");
         checks.due("no rules", 1, x::commands);
         checks.due("no rules then", 0, () -> x.account(9));
-        write(x, "t4;m3=0:0;n;b3");
+        Ways.write(x, "t4;m3=0:0;n;b3");
         checks.fails("refused", REFUSED, x::commands);
         numbers("reason of the command", new int[] {7, 1, 3},
             new Checks.Call[] {() -> x.reason(0), () -> x.reason(1), () -> x.reason(2)});
@@ -819,8 +775,8 @@ public final class PromisesTest {
     }
 
     private static void refusedCommand(String text, int reason, int detail, int index) {
-        LeagueTables x = drawn(0, 1, 2, 3);
-        write(x, text);
+        LeagueTables x = Ways.drawn(0, 1, 2, 3);
+        Ways.write(x, text);
         checks.fails(text, REFUSED, x::commands);
         numbers(text, new int[] {reason, detail, index},
             new Checks.Call[] {() -> x.reason(0), () -> x.reason(1), () -> x.reason(2)});
@@ -840,34 +796,34 @@ public final class PromisesTest {
         refusedCommand("m0=1:1;n", 11, 1, 1);
         refusedCommand("t012;t343", 13, 3, 1);
         refusedCommand("m02=1:1", 7, 1, 0);
-        LeagueTables x = teams(0, 1);
-        write(x, "t;n");
+        LeagueTables x = Ways.teams(0, 1);
+        Ways.write(x, "t;n");
         checks.fails("commands, not drawn", REFUSED, x::commands);
         checks.due("commands, not drawn: reason", 5, () -> x.reason(0));
         checks.due("commands, not drawn: index", 1, () -> x.reason(2));
     }
 
     private static void undoneCommands() {
-        LeagueTables x = drawn(0, 1);
+        LeagueTables x = Ways.drawn(0, 1);
         for (int i = 0; i < 9; i++) {
             x.ground(0, i);
         }
-        write(x, "m0=1:0;b5");
+        Ways.write(x, "m0=1:0;b5");
         checks.fails("refused with a full history", REFUSED, x::commands);
         for (int i = 7; i >= 0; i--) {
             int due = i;
             checks.due("undo behind refused commands", due, x::undo);
             checks.due("ground behind refused commands", due, () -> x.teamOf(0, 0));
         }
-        write(x, "m0=1:0;n");
+        Ways.write(x, "m0=1:0;n");
         x.commands();
         checks.due("undo of commands", 0, x::undo);
         checks.due("all commands are undone", 0, () -> x.account(3) + x.account(5));
     }
 
     private static void fault(String text, int due) {
-        LeagueTables x = drawn(0, 1, 2, 3);
-        write(x, text);
+        LeagueTables x = Ways.drawn(0, 1, 2, 3);
+        Ways.write(x, text);
         checks.fails(text, ARGUMENT, x::commands);
         checks.due(text + ": fault", due, x::faultPosition);
         checks.due(text + ": buffer", 0, () -> x.account(14));
@@ -912,16 +868,16 @@ public final class PromisesTest {
         fault("t0,", 2);
         fault("N", 0);
         fault("n;n;n;n;n;n;n;n;n;n;n;n;n;n;n;n;n;n;n;n;n;n;n;n;n;n;n;n;n;n;", 60);
-        LeagueTables x = drawn(0, 1);
-        write(x, "q");
+        LeagueTables x = Ways.drawn(0, 1);
+        Ways.write(x, "q");
         checks.fails("q", ARGUMENT, x::commands);
         checks.due("fault 0", 0, x::faultPosition);
         checks.fails("a refused call", REFUSED, x::next);
         checks.due("the fault stays", 0, x::faultPosition);
-        write(x, "m0=0:0");
+        Ways.write(x, "m0=0:0");
         x.commands();
         checks.due("no fault", -1, x::faultPosition);
-        write(x, "t;t;t;t;t;t;t;t;t;t;t;t;t;t;t;t;t;t;t;t;t;t;t;t;t;t;t;t;t;t4");
+        Ways.write(x, "t;t;t;t;t;t;t;t;t;t;t;t;t;t;t;t;t;t;t;t;t;t;t;t;t;t;t;t;t;t4");
         checks.due("thirty commands", 30, x::commands);
     }
 
@@ -946,7 +902,7 @@ public final class PromisesTest {
     // ---- Promises 31 to 35
 
     private static void text(String call, String due, LeagueTables x, int team) {
-        checks.note(call, lineOf(x, team), due);
+        checks.note(call, Ways.lineOf(x, team), due);
         checks.due(call + ": length", due.length(), () -> x.line(team));
     }
 
@@ -957,18 +913,18 @@ public final class PromisesTest {
         checks.fails("line, no team 4", INDEX, () -> x.line(4));
         checks.fails("line, no team -1", INDEX, () -> x.line(-1));
         checks.due("the line stays", '2', () -> x.character(0));
-        LeagueTables y = drawn(0, 1);
+        LeagueTables y = Ways.drawn(0, 1);
         y.result(0, 20, 10);
         y.next();
         y.result(1, 0, 20);
         text("a safe line", "0:6 2-0-0 40:10*", y, 0);
         text("a line that is out", "1:0 0-0-2 10:40x", y, 1);
-        text("a line without others", "0:0 0-0-0 0:0*", teams(0), 0);
-        text("a line, not drawn", "1:0 0-0-0 0:0", teams(0, 0), 1);
+        text("a line without others", "0:0 0-0-0 0:0*", Ways.teams(0), 0);
+        text("a line, not drawn", "1:0 0-0-0 0:0", Ways.teams(0, 0), 1);
     }
 
     private static void character() {
-        LeagueTables x = drawn(0, 1);
+        LeagueTables x = Ways.drawn(0, 1);
         checks.fails("empty line", INDEX, () -> x.character(0));
         int length = x.line(1);
         checks.due("first", '1', () -> x.character(0));
@@ -984,7 +940,7 @@ public final class PromisesTest {
     }
 
     private static void meanGoals() {
-        LeagueTables x = drawn(0, 1, 2);
+        LeagueTables x = Ways.drawn(0, 1, 2);
         checks.fails("mean of none", ARITHMETIC, x::meanGoals);
         x.result(0, 2, 2);
         checks.due("mean", 4.0f, x::meanGoals);
@@ -997,7 +953,7 @@ public final class PromisesTest {
     }
 
     private static void homeShare() {
-        LeagueTables x = drawn(0, 1, 2);
+        LeagueTables x = Ways.drawn(0, 1, 2);
         checks.fails("share of none", ARITHMETIC, x::homeShare);
         x.result(0, 2, 2);
         checks.due("share of a draw", 0.0, x::homeShare);
@@ -1011,13 +967,13 @@ public final class PromisesTest {
     }
 
     private static void account() {
-        LeagueTables x = drawn(5, 5, 5, 6);
+        LeagueTables x = Ways.drawn(5, 5, 5, 6);
         x.rules(1, 2, 3);
         x.result(0, 3, 2);
         x.putOff(1, 2);
         x.next();
         x.result(2, 1, 1);
-        write(x, "n;");
+        Ways.write(x, "n;");
         int[] due = {4, 1, 6, 1, 12, 2, 1, 3, 1, 3, 7, 5, 0, 8, 2};
         for (int what = 0; what < due.length; what++) {
             int at = what;
@@ -1028,10 +984,10 @@ public final class PromisesTest {
             }
         }
         checks.yes("some clashes", x.account(12) > 0);
-        checks.due("clashes of the first week, too", 6, () -> drawn(0, 0, 0, 0).account(12));
+        checks.due("clashes of the first week, too", 6, () -> Ways.drawn(0, 0, 0, 0).account(12));
         checks.fails("account 15", ARGUMENT, () -> x.account(15));
         checks.fails("account -1", ARGUMENT, () -> x.account(-1));
-        LeagueTables y = drawn(0, 1);
+        LeagueTables y = Ways.drawn(0, 1);
         y.putOff(0, 1);
         checks.due("one put off", 1, () -> y.account(6));
         y.next();
@@ -1050,7 +1006,7 @@ public final class PromisesTest {
     // ---- Promises 36 to 38
 
     private static void undo() {
-        LeagueTables x = teams(1, 2, 3);
+        LeagueTables x = Ways.teams(1, 2, 3);
         x.draw();
         x.give(2, 0);
         x.rules(4, -1, -1);
@@ -1088,7 +1044,7 @@ public final class PromisesTest {
     }
 
     private static void undoOfEachNumber() {
-        LeagueTables x = teams(1, 2);
+        LeagueTables x = Ways.teams(1, 2);
         x.give(2, 3);
         checks.due("undo give", 2, x::undo);
         checks.due("draw", 1, () -> x.account(8));
@@ -1106,10 +1062,10 @@ public final class PromisesTest {
     }
 
     private static void refusedIsNoChange() {
-        LeagueTables x = teams(1);
+        LeagueTables x = Ways.teams(1);
         checks.fails("refused", REFUSED, x::draw);
         checks.fails("refused", REFUSED, () -> x.team(77));
-        write(x, "m");
+        Ways.write(x, "m");
         checks.due("only the team can be undone", 1, () -> x.account(13));
         checks.due("undo team", 0, x::undo);
         checks.due("no team", 0, () -> x.account(0));
@@ -1147,7 +1103,7 @@ public final class PromisesTest {
 
     // The draw of one number of teams must not be left where that of another comes back.
     private static void otherNumbersOfTeams() {
-        LeagueTables x = drawn(0, 1, 2, 3, 4);
+        LeagueTables x = Ways.drawn(0, 1, 2, 3, 4);
         x.save();
         for (int i = 0; i < 4; i++) {
             x.undo();

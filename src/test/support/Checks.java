@@ -6,11 +6,21 @@ public final class Checks {
     }
 
     private final String title;
+    private String place = "";
     private int done;
     private int wrong;
 
     public Checks(String title) {
         this.title = title;
+    }
+
+    // Tells with each wrong answer where it belongs.
+    public void where(String place) {
+        this.place = place.isEmpty() ? "" : place + ": ";
+    }
+
+    public int done() {
+        return done;
     }
 
     public void due(String call, double want, Call made) {
@@ -23,6 +33,13 @@ public final class Checks {
 
     public void fails(String call, Class<? extends RuntimeException> want, Call made) {
         told(call, made, want.getName());
+    }
+
+    // The reason as "reason detail command"; a reason of another kind is kept first, so that an old one is seen.
+    public void refused(String call, LeagueTables x, String reason, Call made) {
+        told("a team that there is not", () -> x.ground(-77, 0), UnsupportedOperationException.class.getName());
+        told(call, made, UnsupportedOperationException.class.getName());
+        note(call + ": reason", Ways.reasonOf(x), reason);
     }
 
     private void told(String call, Call made, String want) {
@@ -39,7 +56,7 @@ public final class Checks {
         done++;
         if (!got.equals(want)) {
             wrong++;
-            System.out.println(title + ": " + call + " answered " + got + ", due is " + want);
+            System.out.println(title + ": " + place + call + " answered " + got + ", due is " + want);
         }
     }
 
