@@ -452,7 +452,6 @@ public final class LeagueTables {
             throw new IllegalStateException("nothing can be undone");
         }
         history.giveLatest(now);
-        layAgain();
         return history.kept;
     }
 
@@ -468,7 +467,10 @@ public final class LeagueTables {
         }
         now.copyFrom(saved);
         history.forget();
-        layAgain();
+        // The fixtures follow from the number of teams alone; undo never goes back to those of another number.
+        if (now.isDrawn) {
+            fixtures.lay(now.teams);
+        }
         return now.teams;
     }
 
@@ -668,13 +670,6 @@ public final class LeagueTables {
 
     private int weekCount() {
         return now.isDrawn ? fixtures.weeks : 0;
-    }
-
-    // The fixtures follow from the number of teams alone, so that the history need not keep them.
-    private void layAgain() {
-        if (now.isDrawn) {
-            fixtures.lay(now.teams);
-        }
     }
 
     // ---- Meetings

@@ -134,6 +134,12 @@ public final class AnswersTest {
         each("the last", x, (y, what) -> y.teamOf(1, what), 9, 1, 0, 1, 1, 20, 40, 0, 0);
         x.back(1);
         each("one taken back", x, (y, what) -> y.teamOf(0, what), 0, 3, 1, 0, 0, 20, 0, 0, 1);
+        // 0 to 7, then 7 to 4: a draw and a loss of the last of eight.
+        LeagueTables eight = Ways.drawnOf(8);
+        Ways.tell(eight, 1, 1, 0, 0, 0, 0, 0, 0);
+        Ways.playTo(eight, 1, 0, 0);
+        eight.result(eight.find(7, 1), 2, 3);
+        each("the last of eight", eight, (y, what) -> y.teamOf(7, what), 7, 1, 0, 1, 1, 3, 4, 1, 12);
         LeagueTables odd = Ways.drawnOf(3);
         odd.putOff(0, 2);
         each("one put off is not played", odd, (y, team) -> y.teamOf(team, 8), 4, 4, 4);
@@ -457,6 +463,9 @@ public final class AnswersTest {
         LeagueTables x = someWeeks();
         x.rules(-1, -1, -1);
         each("whatever rules are set", x, (y, rule) -> y.valueOf(2, rule), 4, 6, 1, 0, 4);
+        LeagueTables eight = Ways.drawnOf(8);
+        Ways.tell(eight, 1, 1, 2, 2, 3, 3, 0, 0);
+        each("the last of eight", eight, (y, rule) -> y.valueOf(7, rule), 0, 1, 0, 1, 1);
         LeagueTables y = Ways.teams(0, 1);
         y.give(1, 3);
         y.draw();
@@ -747,6 +756,7 @@ public final class AnswersTest {
             }
         }
         text("the longest", "7:42 14-0-0 280:0*", y, 7);
+        each("of the longest", y, (z, what) -> z.teamOf(7, what), 7, 42, 14, 0, 0, 280, 0, 140, 0);
         text("the last one's", "6:12 0-12-2 0:40x", y, 6);
     }
 

@@ -687,6 +687,7 @@ public final class ChangesTest {
         checks.fails("and again", STATE, () -> x.append(';'));
         checks.due("60 are kept", 60, () -> x.account(14));
         checks.due("and can be carried out", 30, x::commands);
+        checks.due("one rule by the last", 1, () -> x.account(9));
         checks.due("there is room then", 1, () -> x.append('t'));
     }
 
@@ -755,6 +756,11 @@ public final class ChangesTest {
         checks.due("four", 4, () -> Ways.carryOut(x, "m0=10:10;n;m1=1:1;b01"));
         checks.due("thirty", 30, () -> Ways.carryOut(x, "t;".repeat(29) + "t"));
         checks.due("one again", 1, () -> Ways.carryOut(x, "t"));
+        LeagueTables y = Ways.drawnOf(4);
+        Ways.tell(y, 3, 3, 1, 1);
+        order("by the goals", y, 0, 3, 1, 2);
+        checks.due("thirty, the last of which counts", 30, () -> Ways.carryOut(y, "t;".repeat(29) + "t4"));
+        order("by the goals away", y, 3, 1, 0, 2);
     }
 
     private static void textHasAFault() {
@@ -1070,7 +1076,22 @@ public final class ChangesTest {
         checks.fails("no week", INDEX, () -> x.meetingsIn(0));
         checks.fails("no meeting", INDEX, () -> x.meetingOf(0, 0));
         checks.due("a team can come again", 0, () -> x.team(7));
+        rulesWereSaved();
         anotherDrawWasSaved();
+    }
+
+    private static void rulesWereSaved() {
+        LeagueTables x = Ways.drawnOf(4);
+        Ways.tell(x, 2, 0, 5, 4);
+        x.rules(1, -1, 0);
+        x.save();
+        x.rules(4, 0, -1);
+        order("goals away, then the lead", x, 0, 2, 1, 3);
+        x.restore();
+        order("the goals, as saved", x, 2, 0, 1, 3);
+        x.rules(0, -1, 1);
+        x.undo();
+        order("the goals, as before what is undone", x, 2, 0, 1, 3);
     }
 
     // The meetings of one number of teams must not be left where those of another come back.

@@ -531,6 +531,8 @@ public final class TermsTest {
         x.result(1, 2, 2);
         checks.due("back", 1, () -> Ways.carryOut(x, "b1"));
         checks.due("open again", 0, () -> x.meetingOf(1, 3));
+        checks.due("no goals at home", -1, () -> x.meetingOf(1, 4));
+        checks.due("no goals away", -1, () -> x.meetingOf(1, 5));
         fault("b", 1);
         fault("b;", 1);
         fault("b1+1", 2);
@@ -606,6 +608,14 @@ public final class TermsTest {
     private static void digitsOfRules() {
         right("t0;t1;t2;t3;t4", 5);
         right("t014", 1);
+        right("t041", 1);
+        right("t401", 1);
+        refusedText("t000", "13 0 0");
+        LeagueTables x = Ways.drawnOf(2);
+        for (String text : new String[] {"t012", "t123", "t234", "t340", "t401"}) {
+            checks.due(text, 1, () -> Ways.carryOut(x, text));
+            checks.due(text + ": three rules", 3, () -> x.account(9));
+        }
         fault("t5", 1);
         fault("t05", 2);
         fault("t019", 3);
@@ -662,6 +672,9 @@ public final class TermsTest {
         checks.due("rules of before", 2, () -> x.account(9));
         checks.refused("as the methods would", x, "14 1 1", () -> Ways.carryOut(x, "t;n"));
         checks.due("rules of before still", 2, () -> x.account(9));
+        LeagueTables y = four(2, 0, 5, 4);
+        checks.fails("other rules, then a refusal", REFUSED, () -> Ways.carryOut(y, "t10;n;n"));
+        ranks("by the rules of before", y, 0, 2, 1, 3);
     }
 
     // ---- Reasons
@@ -946,8 +959,11 @@ public final class TermsTest {
         isOneChange("draw", c, c::draw);
         LeagueTables d = Ways.teams(1, 2);
         isOneChange("give", d, () -> d.give(5, 3));
-        LeagueTables e = Ways.teams(1, 2);
-        isOneChange("rules", e, () -> e.rules(4, 3, 2));
+        // As many points and goals each, but only the team 1 made one away.
+        LeagueTables e = Ways.drawn(1, 2);
+        Ways.tell(e, 2, 1, 1, 0);
+        e.rules(1, -1, -1);
+        isOneChange("rules", e, () -> e.rules(4, -1, -1));
         LeagueTables f = Ways.drawn(1, 2);
         isOneChange("result", f, () -> f.result(0, 2, 1));
         LeagueTables g = Ways.drawn(1, 2);
